@@ -21,6 +21,8 @@ public final class PromisesTest {
         promise11Whole();
         promise12Close();
         promise13Open();
+        promises11To13WithAll200();
+        promises11To13ForgetWhatIsUndone();
         promise14Count();
         Checks.finish();
     }
@@ -415,6 +417,36 @@ public final class PromisesTest {
         Checks.same("13: only what lacks goes", desk.open(), 2);
         cutIs("13: only what lacks goes", desk, 1, 1);
         Checks.yes("13: it is whole", desk.whole());
+    }
+
+    private static void promises11To13WithAll200() {
+        CausalDesk full = full();
+        cutAll(full, 34, 34, 33, 33, 33, 33);
+        Checks.yes("11: all 200", full.whole());
+        Checks.same("12: of all 200", full.close(), FULL);
+        Checks.same("13: of all 200", full.open(), FULL);
+        full.undo(1);
+        Checks.same("4: the 200th receives the last sent", full.receive(1, 198), 199);
+        cutAll(full, 33, 34, 33, 33, 33, 33);
+        Checks.no("11: all but the last sent", full.whole());
+        Checks.same("13: all but that and its receive", full.open(), FULL - 2);
+        full.cut(1, 34);
+        Checks.same("12: the last sent comes back", full.close(), FULL);
+    }
+
+    /** The undone receive had the same place in process 0 as the own event made after it. */
+    private static void promises11To13ForgetWhatIsUndone() {
+        CausalDesk desk = new CausalDesk();
+        desk.send(1);
+        desk.own(2);
+        desk.receive(0, 0);
+        desk.undo(2);
+        desk.own(0);
+        desk.cut(0, 1);
+        Checks.yes("11: nothing of the undone is asked for", desk.whole());
+        Checks.same("12: nor comes in", desk.close(), 1);
+        Checks.same("13: nor takes away", desk.open(), 1);
+        cutIs("13: after all", desk, 1);
     }
 
     private static void promise14Count() {
