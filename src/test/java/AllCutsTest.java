@@ -4,15 +4,26 @@ import java.util.Random;
 public final class AllCutsTest {
     private static final int DESKS = 12;
     private static final int EVENTS = 12;
+    private static final int NOTHING = -1;
 
-    private final CausalDesk desk = new CausalDesk();
-    private final int[] lengths = new int[6];
+    /** What the desk is made of: for each event its process and, unless it sends, what it receives. */
+    private final int[] processes = new int[EVENTS];
+    private final int[] received = new int[EVENTS];
+    private final int[] places = new int[EVENTS];
+    private final int[] lengths = new int[Desks.PROCESSES];
+    private final boolean[][] before = new boolean[EVENTS][EVENTS];
     private final int[][] cuts;
 
     private AllCutsTest(int seed) {
         Random random = new Random(seed);
         for (int e = 0; e < EVENTS; e++) {
-            addOne(random);
+            addOne(e, random);
+        }
+        CausalDesk desk = desk();
+        for (int e = 0; e < EVENTS; e++) {
+            for (int f = 0; f < EVENTS; f++) {
+                before[e][f] = desk.before(e, f);
+            }
         }
         int number = 1;
         for (int length : lengths) {
@@ -31,21 +42,38 @@ public final class AllCutsTest {
         Checks.finish();
     }
 
-    private void addOne(Random random) {
-        int process = random.nextInt(4);
+    private void addOne(int e, Random random) {
         int from = random.nextInt(EVENTS);
-        boolean received = random.nextBoolean()
-                && Checks.thrownBy(() -> desk.receive(process, from)).equals("nothing");
-        if (!received) {
-            desk.send(process);
+        processes[e] = random.nextInt(4);
+        boolean canReceive = from < e && received[from] == NOTHING && processes[from] != processes[e];
+        received[e] = canReceive && random.nextInt(3) > 0 ? from : NOTHING;
+        lengths[processes[e]]++;
+        places[e] = lengths[processes[e]];
+    }
+
+    /** A new one for each cut, so that none is used for more calls than the document promises. */
+    private CausalDesk desk() {
+        CausalDesk desk = new CausalDesk();
+        for (int e = 0; e < EVENTS; e++) {
+            if (received[e] == NOTHING) {
+                desk.send(processes[e]);
+            } else {
+                desk.receive(processes[e], received[e]);
+            }
         }
-        lengths[process]++;
+        return desk;
+    }
+
+    private CausalDesk deskWith(int[] cut) {
+        CausalDesk desk = desk();
+        Desks.cutAll(desk, cut);
+        return desk;
     }
 
     private int[] cutNumber(int number) {
-        int[] sizes = new int[6];
+        int[] sizes = new int[Desks.PROCESSES];
         int rest = number;
-        for (int process = 0; process < 6; process++) {
+        for (int process = 0; process < Desks.PROCESSES; process++) {
             sizes[process] = rest % (lengths[process] + 1);
             rest /= lengths[process] + 1;
         }
@@ -56,10 +84,6 @@ public final class AllCutsTest {
         boolean[] whole = new boolean[cuts.length];
         for (int i = 0; i < cuts.length; i++) {
             whole[i] = isWhole(cuts[i]);
-            put(cuts[i]);
-            if (desk.whole() != whole[i]) {
-                Checks.report("whole() of cut " + i);
-            }
         }
         for (int i = 0; i < cuts.length; i++) {
             int[] least = null;
@@ -72,20 +96,27 @@ public final class AllCutsTest {
                     greatest = cuts[j];
                 }
             }
-            put(cuts[i]);
-            Checks.same("close() of cut " + i, desk.close(), total(least));
-            checkCut("close() of cut " + i, least);
-            put(cuts[i]);
-            Checks.same("open() of cut " + i, desk.open(), total(greatest));
-            checkCut("open() of cut " + i, greatest);
+            checkCut(i, whole[i], least, greatest);
         }
+    }
+
+    private void checkCut(int i, boolean whole, int[] least, int[] greatest) {
+        CausalDesk closed = deskWith(cuts[i]);
+        if (closed.whole() != whole) {
+            Checks.report("whole() of cut " + i);
+        }
+        Checks.same("close() of cut " + i, closed.close(), total(least));
+        Desks.cutIs("close() of cut " + i, closed, least);
+        CausalDesk opened = deskWith(cuts[i]);
+        Checks.same("open() of cut " + i, opened.open(), total(greatest));
+        Desks.cutIs("open() of cut " + i, opened, greatest);
     }
 
     /** By before() and the terms alone, with no help from whole(). */
     private boolean isWhole(int[] sizes) {
         for (int f = 0; f < EVENTS; f++) {
             for (int e = 0; e < EVENTS; e++) {
-                if (has(sizes, f) && desk.before(e, f) && !has(sizes, e)) {
+                if (has(sizes, f) && before[e][f] && !has(sizes, e)) {
                     return false;
                 }
             }
@@ -94,40 +125,11 @@ public final class AllCutsTest {
     }
 
     private boolean has(int[] sizes, int e) {
-        int process = processOf(e);
-        return desk.clock(e, process) <= sizes[process];
-    }
-
-    /** The one process whose clock no earlier event of a greater clock explains. */
-    private int processOf(int e) {
-        for (int process = 0; process < 6; process++) {
-            int most = 0;
-            for (int other = 0; other < e; other++) {
-                most = Math.max(most, desk.clock(other, process));
-            }
-            if (desk.clock(e, process) > most) {
-                return process;
-            }
-        }
-        return 0;
-    }
-
-    private void put(int[] sizes) {
-        for (int process = 0; process < 6; process++) {
-            desk.cut(process, sizes[process]);
-        }
-    }
-
-    private void checkCut(String what, int[] due) {
-        for (int process = 0; process < 6; process++) {
-            int all = desk.count(3);
-            desk.cut(process, 0);
-            Checks.same(what + ", process " + process, all - desk.count(3), due[process]);
-        }
+        return places[e] <= sizes[processes[e]];
     }
 
     private static boolean isIn(int[] small, int[] great) {
-        for (int process = 0; process < 6; process++) {
+        for (int process = 0; process < Desks.PROCESSES; process++) {
             if (small[process] > great[process]) {
                 return false;
             }

@@ -3,19 +3,50 @@ final class Checks {
     static final String ARGUMENT = "IllegalArgumentException";
     static final String INDEX = "IndexOutOfBoundsException";
 
-    /** A call on a desk, for the calls that should throw. */
+    /** A call on a desk, or a test with many of them. */
     interface Call {
         void run();
     }
 
+    private static final int MOST_TOLD = 20;
+
     private static int wrong = 0;
+    private static int wrongOfTest = 0;
+    private static String sentence = "";
 
     private Checks() {
+    }
+
+    /** Runs a test of what the document says; a call that throws what is not due ends that test alone. */
+    static void test(String said, Call test) {
+        sentence = said;
+        wrongOfTest = 0;
+        try {
+            test.run();
+        } catch (RuntimeException e) {
+            report("threw " + e.getClass().getSimpleName() + " at " + placeOf(e) + ", due is an answer");
+        }
+    }
+
+    /** The line of the test, as that is what the reader looks for, and not the line of the desk. */
+    private static String placeOf(RuntimeException e) {
+        for (StackTraceElement at : e.getStackTrace()) {
+            if (at.getClassName().endsWith("Test")) {
+                return at.toString();
+            }
+        }
+        return "an unknown place";
     }
 
     static void same(String what, long got, long due) {
         if (got != due) {
             report(what + " answered " + got + ", due is " + due);
+        }
+    }
+
+    static void same(String what, String got, String due) {
+        if (!got.equals(due)) {
+            report(what + " is " + got + ", due is " + due);
         }
     }
 
@@ -39,6 +70,10 @@ final class Checks {
         }
     }
 
+    static void taken(String what, Call call) {
+        refused(what, "nothing", call);
+    }
+
     static String thrownBy(Call call) {
         try {
             call.run();
@@ -50,8 +85,9 @@ final class Checks {
 
     static void report(String text) {
         wrong++;
-        if (wrong <= 50) {
-            System.out.println(text);
+        wrongOfTest++;
+        if (wrongOfTest <= MOST_TOLD) {
+            System.out.println(sentence.isEmpty() ? text : sentence + " -- " + text);
         }
     }
 

@@ -5,7 +5,7 @@ import java.util.Random;
 /** Holds CausalDesk against PlainDesk over many runs of calls, the same ones each time. */
 public final class PlainDeskTest {
     private static final int RUNS = 400;
-    private static final int LONG_RUNS = 3;
+    private static final int LONG_RUNS = 6;
     private static final int MOST_CALLS = 512;
     private static final int NEARLY_FULL = 170;
 
@@ -31,7 +31,8 @@ public final class PlainDeskTest {
         for (int run = 0; run < LONG_RUNS; run++) {
             PlainDeskTest test = new PlainDeskTest(RUNS + run, 1);
             test.fillMostly();
-            test.play(MOST_CALLS - NEARLY_FULL);
+            // Each step is a call and a look at the cut.
+            test.play((MOST_CALLS - NEARLY_FULL) / 2);
         }
         Checks.finish();
     }
@@ -47,7 +48,8 @@ public final class PlainDeskTest {
     private void fillMostly() {
         for (int i = 0; i < NEARLY_FULL; i++) {
             int process = random.nextInt(6);
-            agree("send(" + process + ")", () -> desk.send(process), () -> plain.send(process));
+            calls.add("send(" + process + ")");
+            Checks.same("send(" + process + ")", desk.send(process), plain.send(process));
         }
     }
 
