@@ -220,9 +220,9 @@ public final class TermsBoundaryTest {
         CausalDesk full = Desks.full();
         int[] lengths = {34, 34, 33, 33, 33, 33};
         for (int process = 0; process < Desks.PROCESSES; process++) {
-            int sender = process;
+            int one = process;
             Desks.cutAll(full, lengths);
-            Checks.refused("one more of " + process, Checks.ARGUMENT, () -> full.cut(sender, lengths[sender] + 1));
+            Checks.refused("one more of " + one, Checks.ARGUMENT, () -> full.cut(one, lengths[one] + 1));
             Checks.same("count(3) with all of each", full.count(3), Desks.FULL);
         }
     }
