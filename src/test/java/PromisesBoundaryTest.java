@@ -46,6 +46,8 @@ public final class PromisesBoundaryTest {
         Checks.test("Promise 10: 0 at first", PromisesBoundaryTest::promise10NoneAtFirst);
         Checks.test("Promise 10: if fewer are left by undo(), it has these",
                 PromisesBoundaryTest::promise10FewerAreLeft);
+        Checks.test("Promise 10: if fewer are left by undo(), it has these",
+                PromisesBoundaryTest::promise10ItHasTheseAlone);
         Checks.test("Promise 10: IllegalArgumentException: n is below 0",
                 PromisesBoundaryTest::promise10Below0);
         Checks.test("Promise 10: or it has not so many, too", PromisesBoundaryTest::promise10NotSoMany);
@@ -479,6 +481,29 @@ public final class PromisesBoundaryTest {
         line.cut(5, 200);
         line.undo(199);
         Checks.same("1 of 200 is left, count(3)", line.count(3), 1);
+    }
+
+    /** The cut is looked at by count() alone: cut() would set anew what undo() has lowered. */
+    private static void promise10ItHasTheseAlone() {
+        CausalDesk desk = Desks.relay();
+        Desks.cutAll(desk, 2, 3, 1);
+        desk.undo(3);
+        desk.send(1);
+        desk.receive(2, 3);
+        desk.own(0);
+        Checks.same("three are made again, count(3)", desk.count(3), 3);
+        Checks.yes("these need nothing else, whole()", desk.whole());
+        Checks.same("close()", desk.close(), 3);
+        Checks.same("open()", desk.open(), 3);
+        Desks.cutIs("these alone", desk, 1, 2);
+        CausalDesk line = Desks.line(5);
+        line.cut(5, 200);
+        line.undo(1);
+        line.own(5);
+        Checks.same("the 200th is another one, count(3)", line.count(3), 199);
+        line.undo(200);
+        line.own(5);
+        Checks.same("the first is another one, count(3)", line.count(3), 0);
     }
 
     private static void promise10Below0() {
